@@ -142,9 +142,9 @@ public final class CountyWatch {
             case 0:
                 return reader.readBeat();
             case 1:
-                return reader.readAct();
+                return reader.readRule(true);
             case 2:
-                return reader.readPay();
+                return reader.readRule(false);
             default:
                 return -2;
         }
@@ -246,8 +246,9 @@ public final class CountyWatch {
             history[now] = here;
             now++;
             for (int m = 0; m < manCount; m++) {
-                if (men[m].till == now) {
-                    goOn(men[m]);
+                Constable man = men[m];
+                if (man != null && man.till == now) {
+                    goOn(man);
                 }
             }
         }
@@ -477,7 +478,7 @@ public final class CountyWatch {
     }
 
     public int act(int day) {
-        if (!within(day, 0, LAST_DAY) || reader.readAct() != NONE) {
+        if (!within(day, 0, LAST_DAY) || reader.readRule(true) != NONE) {
             return NONE;
         }
         return keepRule(acts, day);
@@ -516,7 +517,7 @@ public final class CountyWatch {
     private int countMenAt(int place) {
         int there = 0;
         for (int m = 0; m < manCount; m++) {
-            if (men[m].place == place) {
+            if (men[m] != null && men[m].place == place) {
                 there++;
             }
         }
@@ -683,7 +684,7 @@ public final class CountyWatch {
 
     /** What it costs to lend a CONSTABLE, or NONE if it can't be there in time. */
     private int priceOf(Constable man, int place, int minute) {
-        if (man.about != FREE && man.about != ON_BEAT) {
+        if (man == null || man.about != FREE && man.about != ON_BEAT) {
             return NONE;
         }
         boolean goes = man.target != NONE;
@@ -703,7 +704,7 @@ public final class CountyWatch {
     // ---- 6: pay, booking, marks and complaints
 
     public int pay(int day) {
-        if (!within(day, 0, LAST_DAY) || reader.readPay() != NONE) {
+        if (!within(day, 0, LAST_DAY) || reader.readRule(false) != NONE) {
             return NONE;
         }
         return keepRule(pays, day);
@@ -733,6 +734,9 @@ public final class CountyWatch {
     }
 
     private int wageOf(Constable man, int day, int q) {
+        if (man == null) {
+            return 0;
+        }
         int[] letters = payroll.letters;
         letters[0] = payroll.classOf(man, day, q);
         letters[1] = man.years;
@@ -1091,12 +1095,13 @@ public final class CountyWatch {
             }
         }
 
-        int readAct() {
-            restart(ACT_LETTERS);
-            boolean sound = readActClause();
+        /** An ACT, or PAY: the FAULT, or NONE. */
+        int readRule(boolean act) {
+            restart(act ? ACT_LETTERS : PAY_LETTERS);
+            boolean sound = act ? readActClause() : readPayClause();
             for (int i = 0; i < MOST_BYTES && sound && peek() == ';'; i++) {
                 at++;
-                sound = readActClause();
+                sound = act ? readActClause() : readPayClause();
             }
             if (sound && peek() != NONE) {
                 fail();
@@ -1118,19 +1123,6 @@ public final class CountyWatch {
             emit(Rules.NUMBER, verdict);
             endClause(jump);
             return true;
-        }
-
-        int readPay() {
-            restart(PAY_LETTERS);
-            boolean sound = readPayClause();
-            for (int i = 0; i < MOST_BYTES && sound && peek() == ';'; i++) {
-                at++;
-                sound = readPayClause();
-            }
-            if (sound && peek() != NONE) {
-                fail();
-            }
-            return fault;
         }
 
         /** A SUM may turn out to be the beginning of a CONDITION. */
@@ -1293,7 +1285,7 @@ public final class CountyWatch {
         }
 
         boolean has(int beat) {
-            return within(beat, 0, beats - 1);
+            return beat >= 0 && beat < beats;
         }
 
         int keep(Reader from) {
@@ -1534,7 +1526,7 @@ public final class CountyWatch {
         private int tellings;
 
         boolean has(int i) {
-            return within(i, 0, rows - 1);
+            return i >= 0 && i < rows;
         }
 
         boolean hasRoom(int more) {
@@ -1689,11 +1681,12 @@ public final class CountyWatch {
         }
 
         boolean has(int i) {
-            return within(i, 0, sightings - 1);
+            return i >= 0 && i < sightings;
         }
 
         boolean canBeSeen(int f, int at, int now) {
-            return within(f, 0, finds - 1) && sightings < MOST && place[f] == at && !taken[f] && within(now, from[f], to[f]);
+            boolean open = within(f, 0, finds - 1) && sightings < MOST && !taken[f];
+            return open && place[f] == at && within(now, from[f], to[f]);
         }
 
         /** A SIGHTING whose letters are all told but the CLASS and how many are there. */
@@ -1844,7 +1837,7 @@ public final class CountyWatch {
         }
 
         boolean has(int of) {
-            return within(of, 0, opened - 1);
+            return of >= 0 && of < opened;
         }
 
         boolean wasOpen(int of, int q) {
@@ -1997,7 +1990,7 @@ public final class CountyWatch {
             return stories[of] - 1;
         }
 
-        /** STORIES of the CASE weighed last that STAND, and of those the ones that have all these FACTS so, or not so. */
+        /** STORIES that STAND of the CASE weighed last, and have all these FACTS so, or not so. */
         private int countStories(int of, int q, int facts, boolean so) {
             int refuted = factsThatAre(REFUTED);
             int proved = factsThatAre(PROVED);
@@ -2082,7 +2075,7 @@ public final class CountyWatch {
         }
 
         boolean hasLost(int i) {
-            return within(i, 0, lostGoods - 1);
+            return i >= 0 && i < lostGoods;
         }
 
         int bestSum() {
@@ -2256,7 +2249,7 @@ public final class CountyWatch {
         }
 
         boolean hasWatch(int watch) {
-            return within(watch, 0, watches - 1);
+            return watch >= 0 && watch < watches;
         }
 
         boolean isSeen(int watch, int beat, Beats beats, Roads roads) {

@@ -6,7 +6,7 @@ import java.util.Comparator;
 import java.util.NoSuchElementException;
 import java.util.Random;
 
-/** Any calls with any arguments: only about throws, the same calls answer the same, a refused call changes nothing. */
+/** Any calls with any arguments: only about throws, and the same calls always answer the same. */
 public final class AnyCallsTest {
     private static final String[] TEXTS = {
         "g 1;l;p 2 40;w 5;l", "(g 1;l;g 2;l;p 0 90)3;w 30", "p 3 5;p 1 20;p 2 30", "l;w 1;(l)9", "k=3&h<6?n;w>4?t;n>1?r",

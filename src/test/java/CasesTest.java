@@ -28,6 +28,8 @@ public final class CasesTest {
         Due.due("want 0", x.want(0, 0), false);
         Due.due("want 4", x.want(0, 4), false);
         Due.due("want 3", x.want(7, 3), true);
+        Due.due("want 1", x.want(7, 1), true);
+        Due.due("need nothing", x.need(0, 0), true);
         Due.due("no case", x.state(0, 0, 0, true), -1);
         Due.due("no case", x.story(0, 0, 0), -1);
         Due.due("no case", x.next(0), -1);
@@ -138,6 +140,12 @@ public final class CasesTest {
         Due.due("it lacks what is refuted", x.cased(0, 0, 1), 0b10000);
         x.need(1, 0b00110);
         Due.due("needs as told last", x.cased(0, 0, 0), 1);
+        x.open(9);
+        x.need(9, 0b10000000);
+        Due.due("the highest kind and fact", x.cased(1, 0, 1), 0b10000000);
+        x.state(1, 7, 15, true);
+        Due.due("the highest witness", x.cased(1, 0, 0), 1);
+        Due.due("withdraw the highest witness", x.withdraw(15), 1);
     }
 
     private static void withdrawals() {

@@ -11,6 +11,7 @@ public final class GoodsTest {
 
     public static void main(String[] args) {
         bounds();
+        leastAtFirst();
         likeness();
         rivals();
         Random random = new Random(11);
@@ -44,6 +45,16 @@ public final class GoodsTest {
         Due.due("rivals 8", x.rivals(8), -1);
         Due.due("sure -1", x.sure(-1), -1);
         Due.due("sure 8", x.sure(8), -1);
+    }
+
+    private static void leastAtFirst() {
+        CountyWatch x = new CountyWatch();
+        x.good(true, 12345);
+        x.good(false, 12999);
+        Due.due("two alike", x.joining(), 0);
+        x.good(false, 12399);
+        Due.due("three alike", x.joining(), 3);
+        Due.due("three alike", x.joined(0), 1);
     }
 
     private static void likeness() {

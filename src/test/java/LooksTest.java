@@ -8,6 +8,8 @@ public final class LooksTest {
         arithmetic();
         howManyAreThere();
         knownAtTheHouse();
+        hours();
+        firstFind();
         shoulds();
         noCaseAbove30();
         noneAbove300();
@@ -50,6 +52,8 @@ public final class LooksTest {
         Due.act(x, "k=4?n", 5);
         Due.act(x, "k=5?n", 30);
         Due.due("day 2", x.force(2, 20), -1);
+        Due.act(x, "k=6?n", 0);
+        Due.due("day 0", x.force(0, 20), 5);
         Due.due("day 3", x.force(3, 20), 1);
         Due.due("day 3, ahead", x.force(3, 9), -1);
         Due.due("day 5, told last", x.force(5, 20), 3);
@@ -226,6 +230,35 @@ public final class LooksTest {
         Due.due("heard at 15", x.heard(15), 3);
         Due.due("heard behind now", x.heard(16), -1);
         Due.due("heard ahead of all", x.heard(-1), -1);
+    }
+
+    private static void hours() {
+        int[][] looks = {{59, 0}, {60, 1}, {1439, 23}, {1440, 0}, {2880 + 719, 11}};
+        for (int[] look : looks) {
+            CountyWatch x = new CountyWatch();
+            x.constable(1, 0, 0);
+            x.find(1, 0, 0, 20000, 1);
+            Due.act(x, "h=" + look[1] + "?r", 0);
+            Due.until(x, look[0] - 1);
+            Due.beat(x, "l");
+            x.begin(0, 0);
+            x.tick(1);
+            Due.due("the hour at " + look[0], x.sighting(0, 3), 2);
+        }
+    }
+
+    private static void firstFind() {
+        CountyWatch x = new CountyWatch();
+        x.constable(1, 0, 0);
+        x.find(6, 0, 0, 1, 1);
+        x.find(7, 0, 1, 1, 2);
+        Due.act(x, "w=1?t;w=2?n", 0);
+        Due.beat(x, "l");
+        x.begin(0, 0);
+        x.tick(1);
+        Due.due("the kind of find 0", x.cased(0, 1, 2), 6);
+        Due.due("both are known", x.heard(1), 2);
+        Due.due("none was known ahead", x.heard(0), 0);
     }
 
     private static void shoulds() {

@@ -44,6 +44,7 @@ public final class PayTest {
         Due.due("rank", x.rank(0, 3, 3), true);
         x.tick(10);
         Due.due("rank", x.rank(0, 4, 5), true);
+        Due.due("day 0", x.ranked(0, 0, 30), 1);
         Due.due("day 2", x.ranked(0, 2, 30), 1);
         Due.due("day 3", x.ranked(0, 3, 30), 3);
         Due.due("day 3 at 19", x.ranked(0, 3, 19), 1);
@@ -101,6 +102,7 @@ public final class PayTest {
         Due.due("as known ahead", x.paid(0, 0, 1440), 302);
         x.cause(1, 9);
         Due.due("cause 9 counts", x.paid(0, 0, 1441), 301);
+        lateAtOnce();
         Due.until(x, 2880);
         Due.due("due on the next day", x.paid(0, 1, 2880), 100);
         x.tick(1);
@@ -108,6 +110,17 @@ public final class PayTest {
         x.tick(20);
         Due.until(x, 4320);
         Due.due("a third day", x.paid(0, 2, 4320), 301);
+    }
+
+    private static void lateAtOnce() {
+        CountyWatch x = new CountyWatch();
+        x.path(0, 1, 10);
+        x.constable(1, 0, 0);
+        Due.pay(x, "m*100+x", 0);
+        Due.beat(x, "p 1 9");
+        x.begin(0, 0);
+        x.tick(1440);
+        Due.due("row 0 was missed", x.paid(0, 0, 1440), 1);
     }
 
     private static void takenLetters() {
@@ -227,8 +240,11 @@ public final class PayTest {
         Due.due("132 lines do fit", x.book(), 132);
         Due.due("600 lines", x.count(16), 600);
         Due.due("no difference", x.book(), 0);
-        x.rank(0, 2, 0);
+        x.rank(0, 2, 1);
+        x.rank(0, 1, 2);
         Due.pay(x, "c=2?5;3", 0);
+        Due.due("day 0", x.paid(0, 0, 1440 * 13), 3);
+        Due.due("day 1", x.paid(0, 1, 1440 * 13), 5);
         Due.due("one above is refused", x.book(), -1);
         Due.due("600 lines", x.count(16), 600);
         Due.due("coins", x.count(17), 12 * 2 * 3 + 12 * 11 * 4);
@@ -268,5 +284,11 @@ public final class PayTest {
         x.mark(1, 3, 7);
         Due.due("none in common", x.habit(1, 3), -1000000);
         Due.due("one in common", x.habit(1, 0), 0);
+        for (int i = 4; i < 12; i++) {
+            x.constable(1, 0, 0);
+        }
+        x.mark(1, 11, 9);
+        x.mark(0, 11, 2);
+        Due.due("the last constable", x.habit(1, 0), 7);
     }
 }

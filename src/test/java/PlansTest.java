@@ -20,6 +20,7 @@ public final class PlansTest {
         sharesFollowWhatComes();
         fairBounds();
         whoCanBeLent();
+        allTwelveToFour();
         Random random = new Random(5);
         for (int run = 0; run < 60; run++) {
             againstAllShares(random);
@@ -187,6 +188,24 @@ public final class PlansTest {
         Due.due("free", x.lending(0), 0);
         x.draw(0, 1, 100);
         Due.due("drawn", x.lending(0), -1);
+    }
+
+    private static void allTwelveToFour() {
+        CountyWatch x = new CountyWatch();
+        x.path(0, 1, 7);
+        for (int m = 0; m < 12; m++) {
+            x.constable(1, 0, m < 9 ? 0 : 1);
+        }
+        for (int f = 0; f < 4; f++) {
+            x.fair(f == 0 ? 1 : 0, 6, 3);
+        }
+        Due.due("walks", x.lending(1), 0);
+        for (int m = 0; m < 12; m++) {
+            Due.due("lent", x.lent(m), m < 9 ? 1 + m / 3 : 0);
+        }
+        x.ill(11, true);
+        Due.due("one too few", x.lending(0), -1);
+        Due.due("one too few", x.lent(0), -1);
     }
 
     private static void againstAllShares(Random random) {

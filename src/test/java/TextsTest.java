@@ -19,6 +19,7 @@ public final class TextsTest {
         CountyWatch x = new CountyWatch();
         Due.due("feed, highest first", x.feed(0x01020304, 0, 0x05000006, -1, 0), 10);
         Due.due("feed of nothing", x.feed(0, 0, 0, 0, 0), 10);
+        feedInBounds();
         for (int i = 1; i <= 7; i++) {
             Due.due("feed", x.feed(-1, -1, -1, -1, -1), 10 + 20 * i);
         }
@@ -39,6 +40,21 @@ public final class TextsTest {
         x.end(5);
         Due.due("fault of what is left", x.fault(0), -1);
         Due.due("a sign above 127", Due.fault("l\u00e9", 0), 1);
+    }
+
+    /** Each of the five numbers alone is above 160 behind 158 bytes. */
+    private static void feedInBounds() {
+        CountyWatch x = new CountyWatch();
+        for (int i = 0; i < 7; i++) {
+            x.feed(-1, -1, -1, -1, -1);
+        }
+        Due.due("feed", x.feed(-1, -1, -1, -1, 0x01010000), 158);
+        Due.due("feed a", x.feed(0x01010100, 0, 0, 0, 0), -1);
+        Due.due("feed b", x.feed(0, 0x01010100, 0, 0, 0), -1);
+        Due.due("feed c", x.feed(0, 0, 0x01010100, 0, 0), -1);
+        Due.due("feed d", x.feed(0, 0, 0, 0x01010100, 0), -1);
+        Due.due("feed e", x.feed(0, 0, 0, 0, 0x01010100), -1);
+        Due.due("feed", x.feed(0, 1, 0, 1, 0), 160);
     }
 
     private static void beatFault(String text, int want) {
@@ -182,6 +198,12 @@ public final class TextsTest {
         payFault("[[[[[[c]]]]]]", -1);
         payFault("[[[[[[[c", 6);
         payFault("[c]=1?n", 6);
+        payFault("((((((c=1))))))?5", -1);
+        payFault("(((((((c=1", 6);
+        payFault("!!!!!!c=1&!!!!!!c=1|!!!!!!c=1?[[[[[[5]]]]]]", -1);
+        payFault("c=[[[[[[1]]]]]]&!!!!!!c=1|((((((c=1))))))?5", -1);
+        payFault("c=1&!!!!!!!c=1", 10);
+        payFault("c=1?[[[[[[[5", 10);
         payFault("c=1?5=5", 5);
     }
 

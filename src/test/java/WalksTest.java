@@ -328,7 +328,8 @@ public final class WalksTest {
         Due.due("ahead of all", x.complain(1, 1, -1, 5), -1);
         Due.until(x, 2000);
         Due.due("1,440 minutes", x.complain(1, 1, 0, 1439), 1);
-        Due.due("1,441 minutes and more", x.complain(1, 1, 0, 1441), -1);
+        Due.due("1,441 minutes", x.complain(1, 1, 0, 1440), -1);
+        Due.due("1,442 minutes", x.complain(1, 1, 0, 1441), -1);
     }
 
     private static void causes() {
