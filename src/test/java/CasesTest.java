@@ -10,7 +10,7 @@ public final class CasesTest {
         withdrawals();
         stories();
         partings();
-        for (int seed = 0; seed < 40; seed++) {
+        for (int seed = 0; seed < 150; seed++) {
             againstPlainCount(new Random(seed));
         }
         Due.finish("CasesTest");
@@ -227,9 +227,9 @@ public final class CasesTest {
             wants[f] = 1 + random.nextInt(3);
             x.want(f, wants[f]);
         }
-        int[][] told = new int[150][];
+        int[][] told = new int[80][];
         int tellings = 0;
-        for (int i = 0; i < 150; i++) {
+        for (int i = 0; i < 80; i++) {
             int witness = random.nextInt(16);
             if (random.nextInt(30) == 0) {
                 x.withdraw(witness);
@@ -244,8 +244,10 @@ public final class CasesTest {
             }
             x.tick(random.nextInt(2));
         }
+        int now = x.count(0);
         for (int of = 0; of < 3; of++) {
-            for (int q = 0; q <= x.count(0); q += 3) {
+            for (int k = 0; k < 8; k++) {
+                int q = random.nextInt(now + 1);
                 int lacks = 0;
                 boolean fallen = false;
                 for (int f = 0; f < 8; f++) {

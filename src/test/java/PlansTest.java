@@ -293,6 +293,7 @@ public final class PlansTest {
             }
             x.tick(random.nextInt(2));
         }
+        int[] open = openPoints(x, men);
         int fairs = 1 + random.nextInt(3);
         wanted = new int[fairs];
         cost = new int[men][fairs];
@@ -302,7 +303,8 @@ public final class PlansTest {
             wanted[f] = 1 + random.nextInt(2);
             x.fair(place, minute, wanted[f]);
             for (int m = 0; m < men; m++) {
-                cost[m][f] = plainCost(x, m, place, minute);
+                int walked = plainWalk(x, m, place, minute);
+                cost[m][f] = walked < 0 ? -1 : walked + 10000 * open[m];
             }
         }
         bestCost = Integer.MAX_VALUE;
@@ -315,18 +317,25 @@ public final class PlansTest {
         }
     }
 
-    private static int plainCost(CountyWatch x, int m, int place, int minute) {
+    private static int[] openPoints(CountyWatch x, int men) {
+        int[] open = new int[men];
+        int now = x.count(0);
+        int rows = x.count(4);
+        for (int i = 0; i < rows; i++) {
+            open[x.point(i, now, 0)] += x.point(i, now, 3) == 0 ? 1 : 0;
+        }
+        return open;
+    }
+
+    /** The minutes it walks, or -1 if it can't be lent. */
+    private static int plainWalk(CountyWatch x, int m, int place, int minute) {
         if (x.about(m, 0) > 1) {
             return -1;
-        }
-        int open = 0;
-        for (int i = 0; i < x.count(4); i++) {
-            open += x.point(i, x.count(0), 0) == m && x.point(i, x.count(0), 3) == 0 ? 1 : 0;
         }
         boolean goes = x.about(m, 1) == -1;
         int walk = x.walk(goes ? x.about(m, 2) : x.about(m, 1), place);
         int start = goes ? x.about(m, 3) : x.count(0);
-        return start + walk > minute ? -1 : open * 10000 + walk;
+        return start + walk > minute ? -1 : walk;
     }
 
     /** In the order of ties, so that the first of the best ones is due. */

@@ -18,7 +18,7 @@ public final class WalksTest {
         complaints();
         causes();
         fullRows();
-        for (int seed = 0; seed < 60; seed++) {
+        for (int seed = 0; seed < 250; seed++) {
             againstPlainWalk(new Random(seed));
         }
         Due.finish("WalksTest");
@@ -463,9 +463,9 @@ public final class WalksTest {
         for (int i = 0; i < 6; i++) {
             x.path(random.nextInt(5), random.nextInt(5), 1 + random.nextInt(20));
         }
-        int[][] walks = new int[16][16];
-        for (int i = 0; i < 256; i++) {
-            walks[i / 16][i % 16] = x.walk(i / 16, i % 16);
+        int[][] walks = new int[6][6];
+        for (int i = 0; i < 36; i++) {
+            walks[i / 6][i % 6] = x.walk(i / 6, i % 6);
         }
         int[][][] texts = new int[4][][];
         for (int b = 0; b < 4; b++) {
@@ -506,15 +506,17 @@ public final class WalksTest {
                 x.tick(random.nextInt(25));
             }
         }
-        comparePlaces(x, plain);
+        comparePlaces(x, plain, random);
     }
 
-    private static void comparePlaces(CountyWatch x, PlainWalk[] plain) {
+    /** Not at all minutes, for an object is promised 512 calls. */
+    private static void comparePlaces(CountyWatch x, PlainWalk[] plain, Random random) {
+        int now = x.count(0);
         for (int c = 0; c < 3; c++) {
-            for (int m = 0; m <= x.count(0); m++) {
+            for (int i = 0; i < 80; i++) {
+                int m = random.nextInt(now + 1);
                 Due.due("was", x.was(c, m), Math.max(-1, plain[c].place[m]));
             }
-            int now = x.count(0);
             int place = plain[c].place[now];
             Due.due("place", x.about(c, 1), place < 0 ? -1 : place);
             Due.due("target", x.about(c, 2), place < 0 ? -1 - place : -1);
