@@ -13,14 +13,19 @@ public final class FullTest {
         tape();
         beats();
         longestBeats();
+        longBeatsAreNotMixed();
         rows();
+        rowsAreAllPaid();
         causes();
         finds();
         acts();
+        twelveInOnePlace();
         sightings();
+        sightingsAreAllPaid();
         casesByHand();
         casesByTaking();
         statements();
+        withdrawalFromAllCases();
         stories();
         goods();
         watches();
@@ -207,6 +212,28 @@ public final class FullTest {
         Due.due("late ones are missed", x.about(0, 6), 65);
     }
 
+    /** A text that is too long leaves nothing behind, and a BEAT of 150 STEPS ends ahead of the next BEAT. */
+    private static void longBeatsAreNotMixed() {
+        CountyWatch x = menAt(1, 0);
+        Due.due("3,000 steps", Due.beat(x, "((w 1)15)10;((l)15)10"), NONE);
+        Due.due("cut to 150 steps", x.end(11), true);
+        Due.due("beat", x.beat(), 0);
+        Due.due("its steps", x.beaten(0, 0), 150);
+        Due.due("the next beat", Due.beat(x, "l"), 1);
+        Due.due("its steps", x.beaten(1, 0), 1);
+        x.watch(0, 0, 1440);
+        x.find(1, 0, 0, 20000, 1);
+        Due.due("the long one has no look", x.sees(0, 0), 0);
+        Due.due("the next one has", x.sees(1, 0), 1);
+        x.begin(0, 0);
+        x.tick(149);
+        Due.due("the last step", x.about(0, 4), 149);
+        x.tick(1);
+        Due.due("free", x.about(0, 0), 0);
+        x.tick(5);
+        Due.due("it saw nothing", x.count(8), 0);
+    }
+
     private static CountyWatch menAt(int many, int place) {
         CountyWatch x = new CountyWatch();
         for (int i = 0; i < many; i++) {
@@ -241,6 +268,24 @@ public final class FullTest {
         Due.due("the first 150: one was met", x.causes(4, 0), 149);
         Due.due("the last 100: one was met", x.causes(3, 0), 99);
         Due.due("the last row", x.point(399, 0, 4), 3);
+    }
+
+    private static void rowsAreAllPaid() {
+        CountyWatch x = menAt(12, 0);
+        Due.beat(x, "((p 0 0)20)5");
+        Due.pay(x, "m", 0);
+        for (int m = 8; m < 12; m++) {
+            Due.due("begin", x.begin(m, 0), true);
+        }
+        Due.due("400 rows", x.count(4), 400);
+        x.tick(1440);
+        Due.due("the first one has none", x.paid(0, 0, 1440), 0);
+        Due.due("the last one has 100", x.paid(11, 0, 1440), 100);
+        Due.due("four are paid", x.book(), 4);
+        Due.due("coins", x.count(17), 400);
+        Due.pay(x, "x", 0);
+        Due.due("none is missed", x.paid(0, 0, 1440), 0);
+        Due.due("no cause", x.causes(1, 1440), 0);
     }
 
     private static void causes() {
@@ -293,6 +338,25 @@ public final class FullTest {
         return x;
     }
 
+    private static void twelveInOnePlace() {
+        CountyWatch x = menAt(12, 0);
+        x.find(1, 0, 0, 20000, 1);
+        Due.act(x, "n=12&e=0?n;n=12&e=1?r;n=12&e=11?t", 0);
+        Due.beat(x, "l");
+        for (int m = 0; m < 12; m++) {
+            x.begin(m, 0);
+        }
+        x.tick(1);
+        Due.due("each of them sees it", x.count(8), 12);
+        for (int m = 0; m < 12; m++) {
+            Due.due("rising", x.sighting(m, 0), m);
+            Due.due("what is done", x.sighting(m, 3), m == 0 ? 1 : m == 1 ? 2 : m == 11 ? 3 : 0);
+        }
+        x.begin(11, 0);
+        x.tick(1);
+        Due.due("it is taken", x.count(8), 12);
+    }
+
     private static void sightings() {
         CountyWatch x = manAmong80Finds("e=3?r;e=0?n", "(l)5");
         x.tick(3);
@@ -311,6 +375,17 @@ public final class FullTest {
         Due.due("noted and reported ones are heard of", x.heard(5), 80 + 60);
         Due.due("should of the last one", x.should(299, 5), 3);
         Due.due("should of the one above", x.should(300, 5), NONE);
+    }
+
+    private static void sightingsAreAllPaid() {
+        CountyWatch x = manAmong80Finds("e=3?t", "(l)5");
+        Due.pay(x, "t*100+a", 0);
+        x.tick(1440);
+        Due.due("300 sightings", x.count(8), 300);
+        Due.due("60 are taken", x.count(6), 60);
+        Due.due("60 rightly", x.paid(0, 0, 1440), 6000);
+        Due.act(x, "k=0?t", 0);
+        Due.due("6 rightly, 54 not", x.paid(0, 0, 1440), 654);
     }
 
     private static void casesByHand() {
@@ -347,6 +422,20 @@ public final class FullTest {
         Due.due("refused: its latest one counts", x.fact(0, 0, 0), 1);
         Due.due("a witness can be withdrawn none the less", x.withdraw(15), 0);
         Due.due("and its word does not count", x.fact(0, 0, 0), 0);
+    }
+
+    private static void withdrawalFromAllCases() {
+        CountyWatch x = new CountyWatch();
+        x.need(4, 128);
+        for (int of = 0; of < 30; of++) {
+            x.open(4);
+            x.state(of, 7, 15, true);
+            Due.due("ready", x.cased(of, 0, 0), 1);
+        }
+        Due.due("another one, who said nothing", x.withdraw(0), 0);
+        Due.due("all 30 are otherwise", x.withdraw(15), 30);
+        Due.due("open", x.cased(29, 0, 0), 0);
+        Due.due("lacks", x.cased(29, 0, 1), 128);
     }
 
     private static void stories() {

@@ -1,3 +1,4 @@
+import java.util.Arrays;
 import java.util.Random;
 
 /** Promises 34 to 39: goods lost and found, against all JOININGS tried one by one. */
@@ -18,6 +19,10 @@ public final class GoodsTest {
         for (int run = 0; run < 120; run++) {
             againstAllJoinings(random, run < 110 ? 5 : 8);
         }
+        for (int run = 0; run < 40; run++) {
+            asGoodsCome(random);
+        }
+        askedFirst();
         Due.finish("GoodsTest");
     }
 
@@ -101,6 +106,58 @@ public final class GoodsTest {
             x.good(false, found[i]);
         }
         x.least(least);
+        compare(x);
+    }
+
+    /** On one object, as goods come and LEAST is told anew. */
+    private static void asGoodsCome(Random random) {
+        CountyWatch x = new CountyWatch();
+        lost = new int[0];
+        found = new int[0];
+        least = 3;
+        for (int i = 0; i < 20; i++) {
+            int kind = random.nextInt(3);
+            if (kind == 0 && lost.length < 5) {
+                lost = Arrays.copyOf(lost, lost.length + 1);
+                lost[lost.length - 1] = marks(random);
+                x.good(true, lost[lost.length - 1]);
+            } else if (kind == 1 && found.length < 5) {
+                found = Arrays.copyOf(found, found.length + 1);
+                found[found.length - 1] = marks(random);
+                x.good(false, found[found.length - 1]);
+            } else {
+                least = 1 + random.nextInt(5);
+                x.least(least);
+            }
+            compare(x);
+        }
+    }
+
+    /** Each call finds the BEST JOININGS for itself. */
+    private static void askedFirst() {
+        Due.due("joining first", threeGoods().joining(), 5);
+        Due.due("joined first", threeGoods().joined(1), -1);
+        Due.due("joined first", threeGoods().joined(0), 0);
+        Due.due("rivals first", threeGoods().rivals(1), 1);
+        Due.due("sure first", threeGoods().sure(1), 0);
+        CountyWatch x = threeGoods();
+        Due.due("not sure", x.sure(0), 0);
+        x.good(true, 22222);
+        Due.due("sure to be joined to none", x.sure(2), 1);
+        x.good(false, 22222);
+        Due.due("sure to be joined to one", x.sure(2), 1);
+        Due.due("its rivals", x.rivals(2), 2);
+    }
+
+    private static CountyWatch threeGoods() {
+        CountyWatch x = new CountyWatch();
+        x.good(true, 11111);
+        x.good(true, 11111);
+        x.good(false, 11111);
+        return x;
+    }
+
+    private static void compare(CountyWatch x) {
         best = -1;
         tryAll(0, 0, 0, new int[lost.length]);
         Due.due("joining", x.joining(), best);

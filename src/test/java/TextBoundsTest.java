@@ -15,8 +15,10 @@ public final class TextBoundsTest {
         unfolded();
         nestings();
         nestingsSideBySide();
+        firstFaultsOfRules();
         wrongSigns();
         refusedTexts();
+        truths();
         boundsOfSums();
         boundsOfPay();
         longestTexts();
@@ -40,6 +42,17 @@ public final class TextBoundsTest {
         fault(BEAT, ahead + "00001" + behind, ahead.length() + 4);
         fault(BEAT, ahead + "99999" + behind, ahead.length() + 4);
         fault(BEAT, ahead + "-1" + behind, ahead.length());
+        firstFaultCounts(ahead, most + 1, behind);
+    }
+
+    /** What is wrong behind a FAULT is no FAULT. */
+    private static void firstFaultCounts(String ahead, int wrong, String behind) {
+        int want = (ahead + wrong).length() - 1;
+        fault(BEAT, ahead + wrong + "x" + behind, want);
+        fault(BEAT, ahead + wrong + " x" + behind, want);
+        fault(BEAT, ahead + wrong + ";" + behind + ";", want);
+        fault(BEAT, ahead + wrong + behind + ")", want);
+        fault(BEAT, ahead + wrong + behind + ";g 99999", want);
     }
 
     private static void numbersOfBeats() {
@@ -233,6 +246,28 @@ public final class TextBoundsTest {
         fault(ACT, "![[[[[c+[c]]]]]]=1?n", 8);
     }
 
+    private static void firstFaultsOfRules() {
+        fault(ACT, "k=1?q;k=1?q", 4);
+        fault(ACT, "k;k=1?n;", 1);
+        fault(ACT, "k=10000;x", 6);
+        fault(ACT, "k=1;w=2?n;?", 3);
+        fault(ACT, "!;k=1?n;?", 1);
+        fault(ACT, "(k=1;w=2?n;?", 4);
+        fault(ACT, "[k;w=2?n;?", 2);
+        fault(ACT, "k=1&;w=2?n;?", 4);
+        fault(ACT, "k=1|;w=2?n;?", 4);
+        fault(ACT, "k+;w=2?n;?", 2);
+        fault(ACT, "k*;w=2?n;?", 2);
+        fault(PAY, "c=1;5x", 3);
+        fault(PAY, "c=1;5;;", 3);
+        fault(PAY, "c=1?;5?", 4);
+        fault(PAY, "c=1?;5;;", 4);
+        fault(PAY, "(c=1);5;;", 5);
+        fault(PAY, "10000;x", 4);
+        fault(PAY, "[c;5;;", 2);
+        fault(PAY, "c+;5;;", 2);
+    }
+
     private static void wrongSigns() {
         for (int sign = 1; sign < 256; sign++) {
             String text = String.valueOf((char) sign);
@@ -280,6 +315,40 @@ public final class TextBoundsTest {
         Due.due("pay '" + text + "'", Due.pay(x, text, 0), 0);
         x.tick(1440);
         return x.paid(0, 0, 1440);
+    }
+
+    /** All that ! & and | make of what holds and what does not. */
+    private static void truths() {
+        String[] units = {"0=1", "1=1", "c>1", "c<2"};
+        for (int one = 0; one < 4; one++) {
+            holds(units[one], one % 2 == 1);
+            holds("!" + units[one], one % 2 == 0);
+            holds("!!" + units[one], one % 2 == 1);
+            holds("!(" + units[one] + ")", one % 2 == 0);
+            for (int other = 0; other < 4; other++) {
+                boolean left = one % 2 == 1;
+                boolean right = other % 2 == 1;
+                holds(units[one] + "&" + units[other], left && right);
+                holds(units[one] + "|" + units[other], left || right);
+                holds("!" + units[one] + "&" + units[other], !left && right);
+                holds(units[one] + "&!" + units[other], left && !right);
+                holds("!" + units[one] + "|" + units[other], !left || right);
+                holds(units[one] + "|!" + units[other], left || !right);
+                holds("!(" + units[one] + "&" + units[other] + ")", !(left && right));
+                holds("!(" + units[one] + "|" + units[other] + ")", !(left || right));
+                for (int third = 0; third < 2; third++) {
+                    boolean last = third == 1;
+                    holds(units[one] + "|" + units[other] + "&" + units[third], left || right && last);
+                    holds(units[one] + "&" + units[other] + "|" + units[third], left && right || last);
+                    holds("(" + units[one] + "|" + units[other] + ")&" + units[third], (left || right) && last);
+                    holds(units[one] + "&(" + units[other] + "|" + units[third] + ")", left && (right || last));
+                }
+            }
+        }
+    }
+
+    private static void holds(String condition, boolean want) {
+        Due.due(condition, paid(condition + "?7;3"), want ? 7 : 3);
     }
 
     private static void sum(String text, String want) {
